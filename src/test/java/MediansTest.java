@@ -5,6 +5,7 @@ public final class MediansTest {
         lowerOfTwo();
         whoIsAway();
         quarrels();
+        quarrelsFarAway();
         angerAndSulks();
         nearest();
         Due.end();
@@ -96,6 +97,15 @@ public final class MediansTest {
         Due.due("set(QUARREL) is kept", x.count(13), 59);
     }
 
+    private static void quarrelsFarAway() {
+        LampLatitudes x = with(50, 50, 50, -20, -9, 60);
+        Due.due("agree()", x.agree(), 5450);
+        int[] anger = {0, 0, 0, 1, 0, 0, 0};
+        for (int navigator = 0; navigator < 7; navigator++) {
+            Due.due("of(" + navigator + ", 3)", x.of(navigator, 3), anger[navigator]);
+        }
+    }
+
     private static void angerAndSulks() {
         LampLatitudes x = Due.skilled();
         x.set(LampLatitudes.QUARREL, 20);
@@ -119,6 +129,13 @@ public final class MediansTest {
         Due.due("count(7)", x.count(7), 2 + 1 + 1 + 2 + 2);
         Due.due("count(6)", x.count(6), 5);
         Due.due("sight(3, 0), sulking", x.sight(3, 0), LampLatitudes.NOT_POSSIBLE);
+        for (int time = 0; time < 3; time++) {
+            Due.estimate(x, 0, 50);
+            Due.estimate(x, 1, 1);
+            Due.estimate(x, 2, 1);
+            Due.due("agree()", x.agree(), 5401);
+        }
+        Due.due("count(9), two of them", x.count(9), 9);
     }
 
     /** A median of 0, or next to it, with two more estimates, of the navigators 2 and 3. */
@@ -151,6 +168,10 @@ public final class MediansTest {
         Due.due("nearest(1), the raft has drifted", x.nearest(1), 31);
         x.sail(2);
         Due.due("nearest(1), the raft has drifted", x.nearest(1), 23);
+        x.navigator(0, 1, -2);
+        Due.due("sight(0, 0) from the latitude 12", x.sight(0, 0), 5414);
+        Due.due("nearest(0), the first one", x.nearest(0), 0);
+        Due.due("nearest(1), the first one", x.nearest(1), 2);
         Due.due("nearest(2)", x.nearest(2), LampLatitudes.BAD_VALUE);
         x.night();
         Due.due("nearest(0), after a night", x.nearest(0), LampLatitudes.NONE);

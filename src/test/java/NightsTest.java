@@ -58,8 +58,9 @@ public final class NightsTest {
         for (int time = 0; time < 6; time++) {
             x.undo();
         }
-        line(x, 0, 8, 5436, LampLatitudes.NONE, 0);
-        line(x, 7, 1, 5408, LampLatitudes.NONE, 0);
+        for (int rank = 0; rank < 8; rank++) {
+            line(x, rank, 8 - rank, 5400 + 4 * (9 - rank), LampLatitudes.NONE, 0);
+        }
     }
 
     private static void whatANightEnds() {

@@ -121,6 +121,8 @@ public final class SailingTest {
         Due.due("arrivesIn(0), not within 500", x.arrivesIn(0), LampLatitudes.NONE);
         Due.due("arrivesIn(1)", x.arrivesIn(1), 500);
         Due.due("arrivesIn(999)", x.arrivesIn(999), 251);
+        x.goal(2004);
+        Due.due("arrivesIn(0), within 501", x.arrivesIn(0), LampLatitudes.NONE);
         x.goal(-999);
         Due.due("arrivesIn(999), south of the raft", x.arrivesIn(999), 0);
         Due.due("arrivesIn(998)", x.arrivesIn(998), LampLatitudes.NONE);

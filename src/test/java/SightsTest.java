@@ -110,6 +110,8 @@ public final class SightsTest {
         due(x, 0, 3, 0, 10799);
         x.navigator(0, 2, 0);
         due(x, 0, 2, 0, 0);
+        Due.due("of(0, 5), at the pole", x.of(0, 5), 0);
+        Due.due("of(0, 4)", x.of(0, 4), 6);
         due(x, 0, 1, 0, 5401);
     }
 

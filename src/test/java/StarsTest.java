@@ -90,5 +90,9 @@ public final class StarsTest {
         Due.due("bestStar(), one left", x.bestStar(), 1);
         x.set(LampLatitudes.LOW, 301);
         Due.due("bestStar(), none left", x.bestStar(), LampLatitudes.NONE);
+        x.set(LampLatitudes.LOW, 299);
+        Due.due("bestStar(), higher than star 0", x.bestStar(), 1);
+        x.cloud(1);
+        Due.due("bestStar(), star 0", x.bestStar(), 0);
     }
 }

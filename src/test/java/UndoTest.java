@@ -1,6 +1,6 @@
 /** Promise 26: undo, for each change; and that errors change nothing. */
 public final class UndoTest {
-    private static final int CHANGES = 12;
+    private static final int CHANGES = 14;
 
     public static void main(String[] args) {
         for (int change = 0; change < CHANGES; change++) {
@@ -47,6 +47,8 @@ public final class UndoTest {
             case 8: return x.sail(8);
             case 9: return x.night();
             case 10: return Due.carryOut(x, "m;s4;n");
+            case 11: return x.navigator(6, 0, 9);
+            case 12: return x.navigator(0, 2, 0);
             default: return x.restore(0);
         }
     }
