@@ -1,9 +1,38 @@
 /** What the tests have in common: they compare answers with those that are due, and end with 1 if one is wrong. */
 final class Due {
+    private static final int SHORT = 60;
+    private static final int MOST_MILLISECONDS = 300_000;
     private static int right = 0;
     private static int wrong = 0;
+    private static String about = "";
+
+    static {
+        Thread watch = new Thread(Due::endOverdueTest);
+        watch.setDaemon(true);
+        watch.start();
+    }
 
     private Due() {
+    }
+
+    /** A call that never ends must not keep the other tests waiting. */
+    private static void endOverdueTest() {
+        try {
+            Thread.sleep(MOST_MILLISECONDS);
+        } catch (InterruptedException interrupted) {
+            return;
+        }
+        System.out.println(about + "a call does not end");
+        Runtime.getRuntime().halt(1);
+    }
+
+    /** Words that stand before each wrong answer from now on. */
+    static void about(String words) {
+        about = words;
+    }
+
+    static int answers() {
+        return right + wrong;
     }
 
     static void due(String call, long got, long want) {
@@ -15,8 +44,26 @@ final class Due {
             right++;
         } else {
             wrong++;
-            System.out.println(call + " answered " + got + ", due is " + want);
+            int from = firstDifference(got, want);
+            System.out.println(about + call + " answered " + part(got, from) + ", due is " + part(want, from));
         }
+    }
+
+    private static int firstDifference(String got, String want) {
+        int at = 0;
+        while (at < got.length() && at < want.length() && got.charAt(at) == want.charAt(at)) {
+            at++;
+        }
+        return at;
+    }
+
+    /** Of a long answer only what stands around the first difference. */
+    private static String part(String answer, int from) {
+        if (answer.length() <= 2 * SHORT) {
+            return answer;
+        }
+        int begin = Math.max(0, from - SHORT);
+        return ".." + answer.substring(begin, Math.min(answer.length(), from + SHORT)) + ".. (at " + from + ")";
     }
 
     static void end() {
@@ -26,12 +73,18 @@ final class Due {
         }
     }
 
-    /** All that can be read of the state that undo, save and restore are about. */
-    static String portrait(LampLatitudes x) {
+    /** The numbers of the state, in 15 calls: an object may be asked for its whole portrait three times, no more. */
+    static String counts(LampLatitudes x) {
         StringBuilder all = new StringBuilder();
         for (int what = 0; what <= 14; what++) {
             all.append(x.count(what)).append(' ');
         }
+        return all.toString();
+    }
+
+    /** All that can be read of the state that undo, save and restore are about, in 139 calls. */
+    static String portrait(LampLatitudes x) {
+        StringBuilder all = new StringBuilder(counts(x));
         for (int navigator = 0; navigator < 7; navigator++) {
             all.append("| ");
             for (int what = 0; what <= 7; what++) {

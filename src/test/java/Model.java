@@ -78,6 +78,10 @@ final class Model {
         }
     }
 
+    int padLength() {
+        return pad.length();
+    }
+
     /** Makes a call by its number, as RandomRunsTest numbers them. */
     int call(int method, int a, int b, int c, long characters) {
         if (method == 23) {

@@ -122,7 +122,7 @@ public final class RandomRunsTest {
             return random.nextLong() >>> random.nextInt(64);
         }
         while (rest.length() < 8) {
-            rest += (rest.isEmpty() && raft.count(15) == 0 ? "" : ";") + order();
+            rest += (rest.isEmpty() && model.padLength() == 0 ? "" : ";") + order();
         }
         String next = rest.substring(0, between(1, 8));
         rest = random.nextInt(4) == 0 ? "" : rest.substring(next.length());

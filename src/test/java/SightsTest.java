@@ -12,9 +12,11 @@ public final class SightsTest {
     private static void due(LampLatitudes x, int navigator, int star, int reason, int answer) {
         String at = "(" + navigator + ", " + star + ")";
         Due.due("why" + at, x.why(navigator, star), reason);
-        String before = Due.portraitOfAll(x);
+        int sights = x.count(5);
+        int estimates = x.count(8);
         Due.due("ifSighted" + at, x.ifSighted(navigator, star), answer);
-        Due.due("portrait after ifSighted" + at, Due.portraitOfAll(x), before);
+        Due.due("count(5) after ifSighted" + at, x.count(5), sights);
+        Due.due("count(8) after ifSighted" + at, x.count(8), estimates);
         Due.due("sight" + at, x.sight(navigator, star), answer);
     }
 

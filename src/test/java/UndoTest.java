@@ -67,23 +67,23 @@ public final class UndoTest {
     private static void sixStates() {
         LampLatitudes x = new LampLatitudes();
         Due.due("undo()", x.undo(), LampLatitudes.NOT_POSSIBLE);
-        String[] portraits = new String[21];
-        portraits[0] = Due.portrait(x);
-        for (int hour = 1; hour <= 20; hour++) {
+        String[] counts = new String[16];
+        counts[0] = Due.counts(x);
+        for (int hour = 1; hour <= 15; hour++) {
             x.sail(1);
-            portraits[hour] = Due.portrait(x);
+            counts[hour] = Due.counts(x);
             Due.due("count(16)", x.count(16), Math.min(6, hour));
         }
         for (int left = 5; left >= 0; left--) {
             Due.due("undo()", x.undo(), left);
-            Due.due("portrait", Due.portrait(x), portraits[14 + left]);
+            Due.due("counts", Due.counts(x), counts[9 + left]);
         }
         Due.due("undo(), no more", x.undo(), LampLatitudes.NOT_POSSIBLE);
-        Due.due("portrait", Due.portrait(x), portraits[14]);
+        Due.due("counts", Due.counts(x), counts[9]);
         x.sail(1);
-        Due.due("portrait", Due.portrait(x), portraits[15]);
+        Due.due("counts", Due.counts(x), counts[10]);
         Due.due("undo()", x.undo(), 0);
-        Due.due("portrait", Due.portrait(x), portraits[14]);
+        Due.due("counts", Due.counts(x), counts[9]);
     }
 
     private static void thoseThatChangeNothing() {
