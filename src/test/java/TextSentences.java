@@ -455,6 +455,19 @@ final class TextSentences {
         x.put(';');
         Due.due("fault() of n;;", x.fault(), 2);
         Due.due("count(15)", x.count(15), 3);
+        faultsOfAGrowingText();
+    }
+
+    /** No fault is left from what was read before: "." is no fault, "<" an end too early. */
+    private static void faultsOfAGrowingText() {
+        String text = "o12;c3;s40;*-56;m;g+7;z8;n";
+        String ends = "<<.<<.<<..<<<..<.<<<.<<.<.";
+        LampLatitudes x = new LampLatitudes();
+        for (int length = 1; length <= text.length(); length++) {
+            x.put(text.charAt(length - 1));
+            int fault = ends.charAt(length - 1) == '.' ? LampLatitudes.NONE : length;
+            Due.due("fault() of " + text.substring(0, length), x.fault(), fault);
+        }
     }
 
     private static void oneAfterTheOther() {
