@@ -361,7 +361,7 @@ public final class LampLatitudes {
             return how[navigator] == AWAKE && estimate[navigator] != NOWHERE;
         }
 
-        /** Those who took part in a median are angry or calm then, without estimates; tells how many were too far off. */
+        /** Those who took part in a median are angry or calm then, without estimates; tells how many are too far off. */
         int quarrelOver(int middle, int quarrel) {
             int tooFar = 0;
             for (int navigator = 0; navigator < NAVIGATORS; navigator++) {
